@@ -9,7 +9,7 @@ public final class ModelTests {
         "I 2b 2c", "P 4w", "P 41 2c 3", "I 4bw", "-P 4a 2b", "-I 4bd 2", "P -4 -2ab", "P 31", "P 32 2\"", "R 3", "-R 3 2\"c",
         "P 3 2'", "-P 3 2c", "P 61", "P 65 2", "-P 6c 2c", "P -6c 2c", "P 2 2 3", "I 2 2 3", "-F 2uv 2vw 3", "-I 2b 2c 3",
         "P 4n 2 3", "F 4d 2 3", "-P 4a 2bc 3", "-F 4vw 2vw 3", "-F 4ud 2vw 3", "-I 4bd 2c 3", "P 4bd 2ab 3", "P 4 6x",
-        "R 1u 1v 1w", "F 1u 1v 1w", "P 1u 1v 1w 2", "P 6x 2 3*", "P 3x 2\"", "P 3y 2'", "P 2x 2' 2\"", "P 1a 2 1b 2'",
+        "R 1u 1v 1w", "F 1u 1v 1w", "P 1u 1v 1w 2", "P 6x 2 3*", "P 3x 2\"", "P 3y 2'", "P 2x 2' 2\"", "P 2x 2z 2'", "P 1a 2 1b 2'",
         "A -1n", "B 2xw", "P 3* 2z", "P 3* 3", "P 3 3", "P 6 3", "-P 3* 2'", "P 2 -3 4x", "P 64aaa", "P 4a2b",
     };
 
@@ -165,7 +165,7 @@ public final class ModelTests {
             String text = randomSymbol(random);
             symbol(n % 4 == 0 ? mutated(text, random, " -PRF12346xyz'\"*abnuwd05") : text);
             same("order of " + text, () -> x.order(), () -> m.group.size());
-            if (n % 20 == 0 && !m.group.isEmpty()) {
+            if (n % 3 == 0 && !m.group.isEmpty()) {
                 wholeGroup(text);
                 indices(text, random, 5);
             }
@@ -193,7 +193,7 @@ public final class ModelTests {
         String good = Checks.line(-12, 3, 127, -1234, 50) + Checks.line(0, 0, 0, 0, 0);
         for (int n = 0; n <= good.length(); n++) {
             file(good.substring(0, n));
-            for (char c : " -.0159x\n\u0000\u00b2".toCharArray()) {
+            for (char c : " -./0159:x\n\u0000\u00b2".toCharArray()) {
                 file(good.substring(0, n) + c + (n < good.length() ? good.substring(n + 1) : ""));
                 file(good.substring(0, n) + c);
             }
@@ -268,7 +268,10 @@ public final class ModelTests {
     /** Rows of many sizes, so that R has many digits. */
     private void wideQuotients() {
         int[][] sizes = {{2, 3, 5, 7, 11, 13, 17, 19, 23, 29, 31, 37, 41, 43}, {32, 27, 25, 49, 11, 13, 17, 19, 23, 29},
-            {2, 4, 8, 16, 32, 64}, {97, 89, 83}, {2, 2, 2, 3, 3, 6, 6, 12}};
+            {2, 4, 8, 16, 32, 64}, {97, 89, 83}, {2, 2, 2, 3, 3, 6, 6, 12},
+            // nearly 3000 in all, and the greatest common multiple that they can have
+            {2, 3, 5, 7, 11, 13, 17, 19, 23, 29, 31, 37, 41, 43, 47, 53, 59, 61, 67, 71, 73, 79, 83, 89, 97, 101, 103, 107,
+                109, 113, 127, 131, 137, 139, 149, 151, 157, 163, 167}};
         Random random = new Random(5);
         for (int[] each : sizes) {
             for (int highest : new int[] {9999999, 5000, 1}) {

@@ -215,6 +215,10 @@ public final class PromiseTests {
         holds("P 2x 1 2\"", -1, 0, 0, 0, 0, 1, 0, 1, 0);
         // the second has x by default, and is the axis before the third
         holds("P 2 2 2'", -1, 0, 0, 0, 0, -1, 0, -1, 0);
+        // the latest is the axis before, be it the first by default or a written z
+        holds("P 2 2'", 0, -1, 0, -1, 0, 0, 0, 0, -1);
+        holds("P 2x 2z 2'", 0, -1, 0, -1, 0, 0, 0, 0, -1);
+        c.due("and no other one", has(-1, 0, 0, 0, 0, -1, 0, -1, 0) ? 1 : 0, 0);
         // ' and * are no axis before
         holds("P 2y 2' 2\"", 0, 0, 1, 0, -1, 0, 1, 0, 0);
         holds("P 3* 2'", 0, -1, 0, -1, 0, 0, 0, 0, -1);
@@ -457,8 +461,9 @@ public final class PromiseTests {
         fileFault(good + "\n" + good.substring(0, 20), 49);
         fileFault(good + "\r\n" + good, 28);
         fileFault(good + good, 28);
-        String[] columns = {"    ", "   -", " -1x", "-  1", "1   ", "--11", "+  1", " 128", "-128", "9999", "1-11", "   x", "0128"};
-        int[] places = {3, 3, 3, 1, 1, 1, 0, 3, 3, 3, 1, 3, 3};
+        String[] columns = {"    ", "   -", " -1x", "-  1", "1   ", "--11", "+  1", " 128", "-128", "9999", "1-11", "   x", "0128",
+            "  :1", " 1/1"};
+        int[] places = {3, 3, 3, 1, 1, 1, 0, 3, 3, 3, 1, 3, 3, 2, 2};
         for (int i = 0; i < columns.length; i++) {
             for (int at = 0; at < 12; at += 4) {
                 fileFault(good.substring(0, at) + columns[i] + good.substring(at + 4), at + places[i]);
