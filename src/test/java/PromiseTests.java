@@ -637,8 +637,8 @@ public final class PromiseTests {
         c.due("digits of 1", x.digits(1), 1);
         c.due("digit of 1", x.digit(1, 0), 1);
         x.drop();
-        // 11 * 13 * 17 * 19 * 23 * 29 and sums that are prime to them make more than 32 bits.
-        int[] sizes = {11, 13, 17, 19, 23, 29};
+        // 23 * 29 * 31 * 37 * 41 * 43 * 47 has more than 32 bits.
+        int[] sizes = {23, 29, 31, 37, 41, 43, 47};
         StringBuilder text = new StringBuilder();
         for (int i = 0; i < sizes.length; i++) {
             for (int k = 0; k < sizes[i]; k++) {
@@ -647,21 +647,21 @@ public final class PromiseTests {
         }
         file(text.toString());
         x.merge();
-        // R is the sum of 2 I (n - 1) / n, by 6 I: (6 - sum of 1 / n) / 3
+        // R is the sum of 2 I (n - 1) / n, by 7 I: (7 - sum of 1 / n) * 2 / 7
         BigInteger product = BigInteger.ONE;
         BigInteger sum = BigInteger.ZERO;
         for (int size : sizes) {
             BigInteger n = BigInteger.valueOf(size);
-            sum = sum.multiply(n).add(product.multiply(BigInteger.valueOf(size - 1)));
+            sum = sum.multiply(n).add(product.multiply(BigInteger.valueOf(2 * (size - 1))));
             product = product.multiply(n);
         }
-        BigInteger bottom = product.multiply(BigInteger.valueOf(3));
+        BigInteger bottom = product.multiply(BigInteger.valueOf(sizes.length));
         BigInteger common = sum.gcd(bottom);
         for (int k = 0; k < 3; k++) {
             c.due("wide numerator", x.digit(0, k), sum.divide(common).shiftRight(32 * k).intValue());
             c.due("wide denominator", x.digit(1, k), bottom.divide(common).shiftRight(32 * k).intValue());
         }
-        c.due("wide digits", x.digits(1), (bottom.divide(common).bitLength() + 31) / 32);
+        c.due("wide digits", x.digits(1), 2);
     }
 
     private void noQuotient() {

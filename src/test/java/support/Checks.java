@@ -10,6 +10,16 @@ final class Checks {
     private static final int SHOWN_AT_MOST = 40;
     private int wrong;
     private int made;
+    private String about = "";
+
+    /** What the answers from here on are about; it is told with each wrong one. */
+    void begin(String words) {
+        about = "[" + words + "] ";
+    }
+
+    int countMade() {
+        return made;
+    }
 
     void due(String call, long got, long want) {
         made++;
@@ -34,7 +44,7 @@ final class Checks {
     void fail(String text) {
         wrong++;
         if (wrong <= SHOWN_AT_MOST) {
-            System.out.println(text);
+            System.out.println(about + text);
         }
     }
 
