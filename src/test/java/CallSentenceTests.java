@@ -12,7 +12,7 @@ public final class CallSentenceTests extends Sentences {
 
     private void all() {
         sentence("An object is used for at most 512 calls after it has been made", this::all512Calls);
-        sentence("1: An empty tape, no group, no reflections, no rows", this::newObject);
+        sentence("Promise 1: An empty tape, no group, no reflections, no rows", this::newObject);
         sentence("Of several exceptions the one named first is thrown: sent", this::firstOfSent);
         sentence("Of several exceptions the one named first is thrown: absent", this::firstOfAbsent);
         sentence("Of several exceptions the one named first is thrown: greatest", this::firstOfGreatest);

@@ -8,42 +8,42 @@ public final class FileSentenceTests extends Sentences {
     }
 
     private void all() {
-        sentence("4: A FILE is one row or more", this::oneRowOrMore);
-        sentence("4: rows of 28 bytes", this::bytesOfARow);
-        sentence("4: each with a byte 10 behind it", this::byte10);
-        sentence("4: not needed behind the last one", this::byte10OfTheLast);
-        sentence("4: columns 1 .. 4 h, 5 .. 8 k, 9 .. 12 l", this::columns);
-        sentence("4: an index: blanks, perhaps -, digits to the end of the column", this::indexForms);
-        sentence("4: an index: -127 .. 127", this::indexBounds);
-        sentence("4: the INTENSITY: blanks, perhaps -, digits, a point, two digits, to the end of the column",
+        sentence("Terms 4: A FILE is one row or more", this::oneRowOrMore);
+        sentence("Terms 4: rows of 28 bytes", this::bytesOfARow);
+        sentence("Terms 4: each with a byte 10 behind it", this::byte10);
+        sentence("Terms 4: not needed behind the last one", this::byte10OfTheLast);
+        sentence("Terms 4: columns 1 .. 4 h, 5 .. 8 k, 9 .. 12 l", this::columns);
+        sentence("Terms 4: an index: blanks, perhaps -, digits to the end of the column", this::indexForms);
+        sentence("Terms 4: an index: -127 .. 127", this::indexBounds);
+        sentence("Terms 4: the INTENSITY: blanks, perhaps -, digits, a point, two digits, to the end of the column",
             this::intensityForms);
-        sentence("4: the SIGMA: likewise without -", this::sigmaForms);
-        sentence("4: They count in hundredths", this::hundredths);
-        sentence("4: There may be one row with the indices 0 0 0", this::oneRowOfZeros);
-        sentence("4: it ends the file, and is no reflection", this::zerosAreNoReflection);
-        sentence("4: it must be the last one", this::zerosAreLast);
-        sentence("4: At most 3000 reflections are kept, of all files together", this::atMost3000);
-        sentence("4: the first byte that cannot stand where it does", this::firstByte);
-        sentence("4: the end, where a row is not all there: how many bytes there are", this::endOfRow);
-        sentence("4: an index out of its bounds: the last byte of its column", this::lastByteOfColumn);
-        sentence("4: a row behind 0 0 0: its first byte", this::rowBehindZeros);
-        sentence("4: a reflection too many: its first byte", this::tooMany);
-        sentence("4: - alone cannot end a column", this::minusAlone);
-        sentence("4: nor be followed by a blank", this::minusAndBlank);
-        sentence("4: a column of blanks alone has its fault at its last byte", this::blanksAlone);
-        sentence("4: likewise with the five places before the point, the last of which has to be a digit", this::fivePlaces);
-        sentence("1: no reflections", this::newObject);
-        sentence("12: how many reflections it has", this::howMany);
-        sentence("12: which come behind those that there are", this::comeBehind);
-        sentence("12: -1 less the place (from 0) of its FAULT", this::placeOfFault);
-        sentence("12: none come", this::noneCome);
-        sentence("12: Rows stay", this::rowsStay);
-        sentence("13: All reflections, and rows, go", this::allGo);
-        sentence("13: how many reflections there were", this::howManyWent);
-        sentence("14: How many reflections there are", this::reflections);
-        sentence("15: what = 0 .. 2 its index, 3 its intensity, 4 its sigma", this::numbers);
-        sentence("15: IndexOutOfBoundsException: no such reflection", this::noSuchReflection);
-        sentence("15: IndexOutOfBoundsException: no such what", this::noSuchWhat);
+        sentence("Terms 4: the SIGMA: likewise without -", this::sigmaForms);
+        sentence("Terms 4: They count in hundredths", this::hundredths);
+        sentence("Terms 4: There may be one row with the indices 0 0 0", this::oneRowOfZeros);
+        sentence("Terms 4: it ends the file, and is no reflection", this::zerosAreNoReflection);
+        sentence("Terms 4: it must be the last one", this::zerosAreLast);
+        sentence("Terms 4: At most 3000 reflections are kept, of all files together", this::atMost3000);
+        sentence("Terms 4: the first byte that cannot stand where it does", this::firstByte);
+        sentence("Terms 4: the end, where a row is not all there: how many bytes there are", this::endOfRow);
+        sentence("Terms 4: an index out of its bounds: the last byte of its column", this::lastByteOfColumn);
+        sentence("Terms 4: a row behind 0 0 0: its first byte", this::rowBehindZeros);
+        sentence("Terms 4: a reflection too many: its first byte", this::tooMany);
+        sentence("Terms 4: - alone cannot end a column", this::minusAlone);
+        sentence("Terms 4: nor be followed by a blank", this::minusAndBlank);
+        sentence("Terms 4: a column of blanks alone has its fault at its last byte", this::blanksAlone);
+        sentence("Terms 4: likewise with the five places before the point, the last of which has to be a digit", this::fivePlaces);
+        sentence("Promise 1: no reflections", this::newObject);
+        sentence("Promise 12: how many reflections it has", this::howMany);
+        sentence("Promise 12: which come behind those that there are", this::comeBehind);
+        sentence("Promise 12: -1 less the place (from 0) of its FAULT", this::placeOfFault);
+        sentence("Promise 12: none come", this::noneCome);
+        sentence("Promise 12: Rows stay", this::rowsStay);
+        sentence("Promise 13: All reflections, and rows, go", this::allGo);
+        sentence("Promise 13: how many reflections there were", this::howManyWent);
+        sentence("Promise 14: How many reflections there are", this::reflections);
+        sentence("Promise 15: what = 0 .. 2 its index, 3 its intensity, 4 its sigma", this::numbers);
+        sentence("Promise 15: IndexOutOfBoundsException: no such reflection", this::noSuchReflection);
+        sentence("Promise 15: IndexOutOfBoundsException: no such what", this::noSuchWhat);
         c.finish();
     }
 

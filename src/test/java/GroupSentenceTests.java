@@ -11,41 +11,41 @@ public final class GroupSentenceTests extends Sentences {
     }
 
     private void all() {
-        sentence("1: a TRANSLATION of three twelfths, each 0 .. 11", this::twelfths);
-        sentence("1: (R, t) behind (S, u) is (R S, R u + t)", this::behind);
-        sentence("1: translations modulo 12", this::modulo12);
-        sentence("1: An INDEX is sent by it to the row (h k l) R", this::rowTimesRotation);
-        sentence("1: its PHASE is h t1 + k t2 + l t3 modulo 12", this::phase);
-        sentence("2: numbered from 0 in the order of their rotations' nine numbers, then of their translations' three",
+        sentence("Terms 1: a TRANSLATION of three twelfths, each 0 .. 11", this::twelfths);
+        sentence("Terms 1: (R, t) behind (S, u) is (R S, R u + t)", this::behind);
+        sentence("Terms 1: translations modulo 12", this::modulo12);
+        sentence("Terms 1: An INDEX is sent by it to the row (h k l) R", this::rowTimesRotation);
+        sentence("Terms 1: its PHASE is h t1 + k t2 + l t3 modulo 12", this::phase);
+        sentence("Terms 2: numbered from 0 in the order of their rotations' nine numbers, then of their translations' three",
             this::numbering);
-        sentence("2: LAUE CLASSES: 0 for n = 1; 1 for 2", this::laueOneAndTwo);
-        sentence("2: LAUE CLASSES: 2 for 4 without one whose trace is 1; 3 for 4 with one", this::laueFour);
-        sentence("2: LAUE CLASSES: 4 for 8; 5 for 3", this::laueEightAndThree);
-        sentence("2: LAUE CLASSES: 6 for 6 without one whose trace is 2; 7 for 6 with one", this::laueSix);
-        sentence("2: LAUE CLASSES: 8 for 12 with one whose trace is 2; 9 for 12 without; 10 for 24", this::laueTwelve);
-        sentence("3: EQUIVALENT to an index are those with all signs changed", this::signsChanged);
-        sentence("3: The GREATEST of them (by h, then k, then l)", this::byHThenKThenL);
-        sentence("3: how many different ones there are is its MULTIPLICITY", this::different);
-        sentence("3: ABSENT if an operator sends it to itself with a phase that is not 0", this::absence);
-        sentence("4: 0: there is its group, and nothing of one before", this::nothingOfOneBefore);
-        sentence("5: How many operators the group has", this::orders);
-        sentence("5: 0 without one", this::noOrder);
-        sentence("6: k = 0 .. 8 its rotation, row by row, 9 .. 11 its translation", this::numbersOfOperators);
-        sentence("6: IndexOutOfBoundsException: there is no such operator", this::noSuchOperator);
-        sentence("6: IndexOutOfBoundsException: there is no such k", this::noSuchNumber);
-        sentence("7: NONE without a group", this::noLaue);
-        sentence("8: How many operators have the rotation of 1, or that with its signs changed", this::plain);
-        sentence("8: 0 for another sign", this::otherSign);
-        sentence("8: 0 without a group", this::noPlain);
-        sentence("9: IndexOutOfBoundsException: there is no such operator", this::sentByNone);
-        sentence("9: IndexOutOfBoundsException: there is no such what", this::sentWhat);
-        sentence("9: IllegalArgumentException: a number is not -127 .. 127", this::sentBounds);
-        sentence("10: IllegalStateException without a group", this::absentWithoutGroup);
-        sentence("10: IllegalArgumentException: a number is not -127 .. 127", this::absentBounds);
-        sentence("11: the numbers of the greatest one of its kind may be beyond 127", this::greatestBeyond);
-        sentence("11: IllegalStateException without a group", this::greatestWithoutGroup);
-        sentence("11: IllegalArgumentException: a number is not -127 .. 127", this::greatestBounds);
-        sentence("11: IndexOutOfBoundsException: another what", this::greatestWhat);
+        sentence("Terms 2: LAUE CLASSES: 0 for n = 1; 1 for 2", this::laueOneAndTwo);
+        sentence("Terms 2: LAUE CLASSES: 2 for 4 without one whose trace is 1; 3 for 4 with one", this::laueFour);
+        sentence("Terms 2: LAUE CLASSES: 4 for 8; 5 for 3", this::laueEightAndThree);
+        sentence("Terms 2: LAUE CLASSES: 6 for 6 without one whose trace is 2; 7 for 6 with one", this::laueSix);
+        sentence("Terms 2: LAUE CLASSES: 8 for 12 with one whose trace is 2; 9 for 12 without; 10 for 24", this::laueTwelve);
+        sentence("Terms 3: EQUIVALENT to an index are those with all signs changed", this::signsChanged);
+        sentence("Terms 3: The GREATEST of them (by h, then k, then l)", this::byHThenKThenL);
+        sentence("Terms 3: how many different ones there are is its MULTIPLICITY", this::different);
+        sentence("Terms 3: ABSENT if an operator sends it to itself with a phase that is not 0", this::absence);
+        sentence("Promise 4: 0: there is its group, and nothing of one before", this::nothingOfOneBefore);
+        sentence("Promise 5: How many operators the group has", this::orders);
+        sentence("Promise 5: 0 without one", this::noOrder);
+        sentence("Promise 6: k = 0 .. 8 its rotation, row by row, 9 .. 11 its translation", this::numbersOfOperators);
+        sentence("Promise 6: IndexOutOfBoundsException: there is no such operator", this::noSuchOperator);
+        sentence("Promise 6: IndexOutOfBoundsException: there is no such k", this::noSuchNumber);
+        sentence("Promise 7: NONE without a group", this::noLaue);
+        sentence("Promise 8: How many operators have the rotation of 1, or that with its signs changed", this::plain);
+        sentence("Promise 8: 0 for another sign", this::otherSign);
+        sentence("Promise 8: 0 without a group", this::noPlain);
+        sentence("Promise 9: IndexOutOfBoundsException: there is no such operator", this::sentByNone);
+        sentence("Promise 9: IndexOutOfBoundsException: there is no such what", this::sentWhat);
+        sentence("Promise 9: IllegalArgumentException: a number is not -127 .. 127", this::sentBounds);
+        sentence("Promise 10: IllegalStateException without a group", this::absentWithoutGroup);
+        sentence("Promise 10: IllegalArgumentException: a number is not -127 .. 127", this::absentBounds);
+        sentence("Promise 11: the numbers of the greatest one of its kind may be beyond 127", this::greatestBeyond);
+        sentence("Promise 11: IllegalStateException without a group", this::greatestWithoutGroup);
+        sentence("Promise 11: IllegalArgumentException: a number is not -127 .. 127", this::greatestBounds);
+        sentence("Promise 11: IndexOutOfBoundsException: another what", this::greatestWhat);
         c.finish();
     }
 
@@ -302,6 +302,16 @@ public final class GroupSentenceTests extends Sentences {
         c.due("the least one", Checks.readSymbol(x, "P 1"), 0);
         c.due("laue", x.laue(), 0);
         kind(-1, 2, -3, 1, -2, 3, 2);
+        String[] ofEachClass = {"P 1", "P 2y", "P 2 2", "P 4", "P 4 2", "P 3", "P 3 2", "P 6", "P 6 2", "P 2 2 3", "P 4 2 3"};
+        int[] multiplicities = {2, 4, 8, 8, 16, 6, 12, 12, 24, 24, 48};
+        for (String before : ofEachClass) {
+            for (int i = 0; i < ofEachClass.length; i++) {
+                right(before);
+                c.due(ofEachClass[i] + " behind " + before, Checks.readSymbol(x, ofEachClass[i]), 0);
+                c.due("laue of it", x.laue(), i);
+                c.due("multiplicity of it", x.greatest(3, 5, 7, 3), multiplicities[i]);
+            }
+        }
     }
 
     private void orders() {

@@ -7,49 +7,49 @@ public final class MergeSentenceTests extends Sentences {
     }
 
     private void all() {
-        sentence("5: all reflections of a kind make one", this::oneOfAKind);
-        sentence("5: they go by their greatest indices, the lesser first", this::lesserFirst);
-        sentence("5: n are its reflections, S the sum of their intensities", this::sums);
-        sentence("5: its MEAN S / n", this::means);
-        sentence("5: its SPREAD the sum of the sizes of n times the intensity less S", this::spreads);
-        sentence("5: R is over rows that are not absent", this::quotientWithoutAbsent);
-        sentence("5: R is over rows that have two reflections or more", this::quotientOfTwoOrMore);
-        sentence("5: there is none, when there are no such rows", this::noSuchRows);
-        sentence("5: or that sum is not above 0", this::sumNotAbove0);
-        sentence("5: A VIOLATION above m is a reflection that is absent", this::violationIsAbsent);
-        sentence("5: and has an intensity above m times its sigma", this::violationIsAbove);
-        sentence("5: COMPLETE: KINDS that are not absent", this::kindsNotAbsent);
-        sentence("5: COMPLETE: but 0 0 0", this::kindsButZeros);
-        sentence("5: COMPLETE: whose greatest index has no number beyond -H .. H", this::kindsNotBeyond);
-        sentence("5: COMPLETE: how many of them have a row", this::kindsWithARow);
-        sentence("1: no rows", this::newObject);
-        sentence("16: The reflections are merged by the group: how many rows", this::howManyRows);
-        sentence("16: The reflections are merged, and nothing of a merge before", this::mergeAgain);
-        sentence("16: IllegalStateException without a group", this::mergeWithoutGroup);
-        sentence("17: they stay till the next merge(), symbol() that is 0, drop()", this::rowsStay);
-        sentence("18: 4 its multiplicity, 5 whether it is absent (1, 0)", this::multiplicityAndAbsence);
-        sentence("18: its MEAN in lowest terms (numerator, denominator above 0)", this::lowestTerms);
-        sentence("18: IndexOutOfBoundsException: no such row", this::noSuchRow);
-        sentence("18: IndexOutOfBoundsException: no such what", this::noSuchWhat);
-        sentence("19: R in lowest terms", this::quotientInLowestTerms);
-        sentence("19: how many 32-bit digits it has without zeros before them", this::countOfDigits);
-        sentence("19: (0 for 0)", this::quotientOf0);
-        sentence("19: NONE: there is no R", this::noQuotient);
-        sentence("19: IndexOutOfBoundsException: another what", this::digitsOfAnother);
-        sentence("20: Its digit k (0 the lowest), as an int", this::digitAsInt);
-        sentence("20: 0 beyond, below", this::digitBeyondAndBelow);
-        sentence("20: 0 when there is no R", this::digitWithoutQuotient);
-        sentence("20: IndexOutOfBoundsException: another what", this::digitOfAnother);
-        sentence("21: among the reflections as they are", this::reflectionsAsTheyAre);
-        sentence("21: IllegalStateException without a group", this::violationsWithoutGroup);
-        sentence("21: (0 .. 100) IllegalArgumentException: m", this::violationsBounds);
-        sentence("22: the i-th reflection (0 the first) of the latest violations()", this::latestViolations);
-        sentence("22: as it was then, whatever came since", this::whateverCameSince);
-        sentence("22: NONE when there is none such", this::noneSuch);
-        sentence("23: what = 0 how many kinds have a row, 1 how many there are", this::completeOfBoth);
-        sentence("23: IllegalStateException without a group", this::completeWithoutGroup);
-        sentence("23: (1 .. 12) IllegalArgumentException: H", this::completeBounds);
-        sentence("23: IndexOutOfBoundsException: another what", this::completeOfAnother);
+        sentence("Terms 5: all reflections of a kind make one", this::oneOfAKind);
+        sentence("Terms 5: they go by their greatest indices, the lesser first", this::lesserFirst);
+        sentence("Terms 5: n are its reflections, S the sum of their intensities", this::sums);
+        sentence("Terms 5: its MEAN S / n", this::means);
+        sentence("Terms 5: its SPREAD the sum of the sizes of n times the intensity less S", this::spreads);
+        sentence("Terms 5: R is over rows that are not absent", this::quotientWithoutAbsent);
+        sentence("Terms 5: R is over rows that have two reflections or more", this::quotientOfTwoOrMore);
+        sentence("Terms 5: there is none, when there are no such rows", this::noSuchRows);
+        sentence("Terms 5: or that sum is not above 0", this::sumNotAbove0);
+        sentence("Terms 5: A VIOLATION above m is a reflection that is absent", this::violationIsAbsent);
+        sentence("Terms 5: and has an intensity above m times its sigma", this::violationIsAbove);
+        sentence("Terms 5: COMPLETE: KINDS that are not absent", this::kindsNotAbsent);
+        sentence("Terms 5: COMPLETE: but 0 0 0", this::kindsButZeros);
+        sentence("Terms 5: COMPLETE: whose greatest index has no number beyond -H .. H", this::kindsNotBeyond);
+        sentence("Terms 5: COMPLETE: how many of them have a row", this::kindsWithARow);
+        sentence("Promise 1: no rows", this::newObject);
+        sentence("Promise 16: The reflections are merged by the group: how many rows", this::howManyRows);
+        sentence("Promise 16: The reflections are merged, and nothing of a merge before", this::mergeAgain);
+        sentence("Promise 16: IllegalStateException without a group", this::mergeWithoutGroup);
+        sentence("Promise 17: they stay till the next merge(), symbol() that is 0, drop()", this::rowsStay);
+        sentence("Promise 18: 4 its multiplicity, 5 whether it is absent (1, 0)", this::multiplicityAndAbsence);
+        sentence("Promise 18: its MEAN in lowest terms (numerator, denominator above 0)", this::lowestTerms);
+        sentence("Promise 18: IndexOutOfBoundsException: no such row", this::noSuchRow);
+        sentence("Promise 18: IndexOutOfBoundsException: no such what", this::noSuchWhat);
+        sentence("Promise 19: R in lowest terms", this::quotientInLowestTerms);
+        sentence("Promise 19: how many 32-bit digits it has without zeros before them", this::countOfDigits);
+        sentence("Promise 19: (0 for 0)", this::quotientOf0);
+        sentence("Promise 19: NONE: there is no R", this::noQuotient);
+        sentence("Promise 19: IndexOutOfBoundsException: another what", this::digitsOfAnother);
+        sentence("Promise 20: Its digit k (0 the lowest), as an int", this::digitAsInt);
+        sentence("Promise 20: 0 beyond, below", this::digitBeyondAndBelow);
+        sentence("Promise 20: 0 when there is no R", this::digitWithoutQuotient);
+        sentence("Promise 20: IndexOutOfBoundsException: another what", this::digitOfAnother);
+        sentence("Promise 21: among the reflections as they are", this::reflectionsAsTheyAre);
+        sentence("Promise 21: IllegalStateException without a group", this::violationsWithoutGroup);
+        sentence("Promise 21: (0 .. 100) IllegalArgumentException: m", this::violationsBounds);
+        sentence("Promise 22: the i-th reflection (0 the first) of the latest violations()", this::latestViolations);
+        sentence("Promise 22: as it was then, whatever came since", this::whateverCameSince);
+        sentence("Promise 22: NONE when there is none such", this::noneSuch);
+        sentence("Promise 23: what = 0 how many kinds have a row, 1 how many there are", this::completeOfBoth);
+        sentence("Promise 23: IllegalStateException without a group", this::completeWithoutGroup);
+        sentence("Promise 23: (1 .. 12) IllegalArgumentException: H", this::completeBounds);
+        sentence("Promise 23: IndexOutOfBoundsException: another what", this::completeOfAnother);
         c.finish();
     }
 
@@ -388,6 +388,9 @@ public final class MergeSentenceTests extends Sentences {
         // 4 / 3 three times, by 4: the terms' denominator goes when they are added
         merged("P 1", line(1, 0, 0, 1) + lines(2, 1, 0, 0, 0) + line(2, 0, 0, 1) + lines(2, 2, 0, 0, 0) + lines(2, 3, 0, 0, 1) + line(3, 0, 0, 0));
         dueQuotient(1, 1);
+        // 6 / 4 twice, by 2 and 3
+        merged("P 1", line(1, 0, 0, 1) + lines(3, 1, 0, 0, 0) + line(2, 0, 0, 1) + lines(3, 2, 0, 0, 0) + lines(3, 3, 0, 0, 1));
+        dueQuotient(3, 5);
         // 14 / 8 four times, by 4 and 3: it goes by 2 twice
         StringBuilder eights = new StringBuilder();
         for (int h = 1; h <= 4; h++) {

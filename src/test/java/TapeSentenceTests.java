@@ -9,16 +9,16 @@ public final class TapeSentenceTests extends Sentences {
         sentence("Terms: THE TAPE has at most 8000 bytes; all of them are read", this::allBytesAreRead);
         sentence("Terms: what reads it uses it up", this::readingUsesItUp);
         sentence("Terms: NUMBERS of bytes here are those of printed signs", this::numbersOfBytes);
-        sentence("1: An empty tape", this::newTape);
-        sentence("2: Twenty bytes come behind the tape", this::behindTheTape);
-        sentence("2: each number's highest one first", this::highestFirst);
-        sentence("2: how many it has", this::howMany);
-        sentence("2: IllegalStateException when there would be more than 8000", this::feedRefused);
-        sentence("3: The tape is cut behind its first n bytes", this::cut);
-        sentence("3: IllegalArgumentException when n is below 0", this::endBelow);
-        sentence("3: or more than it has", this::endBeyond);
-        sentence("4: The tape is read as a SYMBOL, and is empty then", this::symbolEmpties);
-        sentence("12: The tape is read as a FILE, and is empty then", this::fileEmpties);
+        sentence("Promise 1: An empty tape", this::newTape);
+        sentence("Promise 2: Twenty bytes come behind the tape", this::behindTheTape);
+        sentence("Promise 2: each number's highest one first", this::highestFirst);
+        sentence("Promise 2: how many it has", this::howMany);
+        sentence("Promise 2: IllegalStateException when there would be more than 8000", this::feedRefused);
+        sentence("Promise 3: The tape is cut behind its first n bytes", this::cut);
+        sentence("Promise 3: IllegalArgumentException when n is below 0", this::endBelow);
+        sentence("Promise 3: or more than it has", this::endBeyond);
+        sentence("Promise 4: The tape is read as a SYMBOL, and is empty then", this::symbolEmpties);
+        sentence("Promise 12: The tape is read as a FILE, and is empty then", this::fileEmpties);
         c.finish();
     }
 
